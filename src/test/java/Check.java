@@ -14,6 +14,11 @@ final class Check {
         }
     }
 
+    static void threw(String call, Exception thrown, long want) {
+        wrong++;
+        System.out.println(call + " threw " + thrown.getClass().getName() + ", due is " + want);
+    }
+
     static void illegal(String call, Callable<?> run) {
         String got;
         try {
